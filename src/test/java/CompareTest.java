@@ -67,6 +67,17 @@ public final class CompareTest {
         dueAll(x, 3, 0, 60, 7, new int[] {1, 2, 1, 1});
         dueAll(x, 3, 0, 60, 8, new int[] {1, 2, 1, 0});
         dueAll(x, 3, 0, 60, 2000, new int[] {1, 2, 1, 0});
+        x.mark(1, 3, 0, 7);
+        x.day(9);
+        x.ends(1, 30);
+        x.born(9, 0);
+        dueAll(x, 3, 40, 60, 8, new int[] {1, 2, 1, 0});
+        dueAll(x, 3, 40, 60, 9, new int[] {1, 2, 1, 0});
+        dueAll(x, 3, 0, 40, 8, new int[] {2, 0, 0, 0});
+        dueAll(x, 3, 0, 40, 7, new int[] {2, 0, 0, 0});
+        dueAll(x, 3, 0, 60, 7, new int[] {1, 2, 1, 1});
+        dueAll(x, 3, 60, 0, 7, new int[] {1, 1, 2, 1});
+        dueAll(x, 3, 60, 0, 9, new int[] {1, 2, 2, 0});
     }
 
     private static void refused() {

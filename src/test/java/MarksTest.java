@@ -53,6 +53,10 @@ public final class MarksTest {
         Check.due("over: back again", x.thing(0, 3, 5), 2);
         Check.due("over: ahead of the news", x.thing(0, 2, 5), 0);
         Check.due("over: the other's", x.thing(1, 3, 5), 0);
+        ThenTables y = two();
+        y.mark(0, 1, 9, 0);
+        y.mark(0, 1, 0, 1);
+        Check.due("over: the first two", y.thing(0, 0, 5), 1);
     }
 
     private static void kept(int mark) {
@@ -138,6 +142,7 @@ public final class MarksTest {
         Check.due("a 301st, fixed", x.mark(1, 0, 0, 77), false);
         Check.due("300 are there", x.count(3), 300);
         Check.due("not told", x.told(0, 2, 2000, 0), 298 % 100);
+        Check.due("told over 49 times since the undoing", x.thing(0, 0, 5), 49);
         x.load();
         Check.due("undo(1)", x.undo(1), 150);
         Check.due("undone ones count still", x.mark(0, 2, 0, 1), false);

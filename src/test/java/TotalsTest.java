@@ -142,6 +142,17 @@ public final class TotalsTest {
         Check.due("by as known on 7", x.by(2, 2, 60, 7), 100 + 250);
         Check.due("by as known on 7, the rest", x.by(2, 100, 60, 7), 750);
         Check.due("known on a day to come", x.by(2, 100, 60, 2000), 750);
+        x.fact(9, 10, 40);
+        x.day(8);
+        x.born(9, 0);
+        x.fact(8, 10, 3);
+        Check.due("waiting as known on 7", x.sum(1, 0, 7), 40);
+        Check.due("waiting as known on 8", x.sum(1, 0, 8), 3);
+        x.mark(4, 0, 0, 0);
+        Check.due("a mark of no thing counts nowhere", x.then(0, 0, 8), 0);
+        x.mark(3, 0, 0, 0);
+        Check.due("then of value 0", x.then(0, 0, 8), 40);
+        Check.due("by of value 0", x.by(0, 0, 10, 8), 40);
     }
 
     private static void refused() {
