@@ -23,7 +23,7 @@ final class Check {
         }
     }
 
-    /** What a caller can see of an object, in at most some 160 calls: so that a refused call can be shown to do nothing. */
+    /** What a caller can see of an object, in at most some 160 calls: so that a call can be shown to do nothing. */
     static String seen(ThenTables x) {
         StringBuilder text = new StringBuilder();
         for (int what = 0; what < 6; what++) {

@@ -71,8 +71,8 @@ public final class FaceTest {
     private static void words() throws IOException {
         String source = Files.readString(Path.of("src/main/java/ThenTables.java"));
         String code = source.replaceAll("(?s)/\\*.*?\\*/", "").replaceAll("//[^\n]*", "");
-        String[] forbidden = {"\\bthrow", "\\btry\\b", "\\bcatch\\b", "\\bsynchronized\\b", "\\bassert\\b", "\\bimport\\b",
-            "\\bpackage\\b", "->", "::", "Exact\\b", "\\bSystem\\b", "\\bObject\\b", "\\bprotected\\b"};
+        String[] forbidden = {"\\bthrow", "\\btry\\b", "\\bcatch\\b", "\\bsynchronized\\b", "\\bassert\\b",
+            "\\bimport\\b", "\\bpackage\\b", "->", "::", "Exact\\b", "\\bSystem\\b", "\\bObject\\b", "\\bprotected\\b"};
         for (String word : forbidden) {
             Matcher m = Pattern.compile(word).matcher(code);
             Check.due("the source has " + word, m.find(), false);

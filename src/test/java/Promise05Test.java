@@ -14,6 +14,7 @@ public final class Promise05Test {
         asEndsItHasAnEnd();
         asEndsTheDay();
         oneOfBothLives();
+        anyOtherThingLives();
         oneOfBothIsBornBehind();
         oneOfBothHasEnded();
         theThingEndsFirst();
@@ -119,6 +120,14 @@ public final class Promise05Test {
                 .refused("split(0, 2000, 7, 6, 1, 2)", -3);
         new Run("-3: both live", "born(5, 10)", "born(6, 10)", "born(7, 10)").refused("split(0, 20, 6, 7, 1, 2)", -3)
                 .refused("split(0, 20, 5, 7, 1, 2)", -3).refused("split(0, 20, 7, 5, 1, 2)", -3);
+    }
+
+    private static void anyOtherThingLives() {
+        new Run("-3: of all other THINGS, with smaller numbers and with greater ones", "born(6, 10)", "born(5, 10)",
+                "born(7, 10)").refused("split(1, 20, 6, 8, 1, 2)", -3).refused("split(1, 20, 8, 6, 1, 2)", -3)
+                .refused("split(1, 20, 7, 8, 1, 2)", -3).refused("split(1, 20, 8, 7, 1, 2)", -3)
+                .refused("split(0, 20, 5, 8, 1, 2)", -3).refused("split(2, 20, 8, 6, 1, 2)", -3)
+                .due("split(1, 20, 8, 9, 1, 2)", 3);
     }
 
     private static void oneOfBothIsBornBehind() {

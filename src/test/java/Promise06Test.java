@@ -8,6 +8,7 @@ public final class Promise06Test {
         oneHasAnEnd();
         theDay();
         theCodeLives();
+        anyOtherThingLives();
         theCodeIsBornBehind();
         bothEndFirst();
         fortyAreThere();
@@ -76,6 +77,13 @@ public final class Promise06Test {
                 .due("join(0, 1, 30, 7)", 3).due("find(7, 29, 0)", 2).due("find(7, 30, 0)", 3);
         new Run("-3: one of its CODE lives up to the last DAY", "born(5, 10)", "born(6, 10)", "born(7, 20)")
                 .refused("join(0, 1, 2000, 7)", -3).due("join(0, 1, 2000, 8)", 3);
+    }
+
+    private static void anyOtherThingLives() {
+        new Run("-3: of all other THINGS, with smaller numbers and with greater ones", "born(5, 10)", "born(6, 10)",
+                "born(7, 10)", "born(8, 10)").refused("join(1, 2, 20, 5)", -3).refused("join(2, 1, 20, 5)", -3)
+                .refused("join(1, 2, 20, 8)", -3).refused("join(2, 1, 20, 8)", -3).refused("join(0, 3, 20, 6)", -3)
+                .refused("join(3, 0, 20, 7)", -3).refused("join(3, 2, 20, 5)", -3).due("join(3, 1, 20, 6)", 4);
     }
 
     private static void theCodeIsBornBehind() {

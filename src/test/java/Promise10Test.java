@@ -53,8 +53,8 @@ public final class Promise10Test {
     private static void asIfNoneHadBeenTold() {
         new Run("it's as if none of it had been told", "born(5, 10)", "mark(0, 1, 10, 1)", "mark(0, 2, 10, 1)",
                 "fact(5, 10, 1)", "load()", "mark(0, 0, 10, 2)", "mark(0, 1, 10, 2)", "mark(0, 2, 10, 2)",
-                "mark(0, 3, 10, 2)", "fact(5, 10, 2)", "fact(6, 10, 4)", "load()", "mark(0, 3, 20, 3)").due("undo(1)", 6)
-                .due("told(0, 0, 20, 0)", 100).due("told(0, 1, 20, 0)", 1).due("told(0, 2, 20, 0)", 1)
+                "mark(0, 3, 10, 2)", "fact(5, 10, 2)", "fact(6, 10, 4)", "load()", "mark(0, 3, 20, 3)")
+                .due("undo(1)", 6).due("told(0, 0, 20, 0)", 100).due("told(0, 1, 20, 0)", 1).due("told(0, 2, 20, 0)", 1)
                 .due("told(0, 3, 19, 0)", 100).due("told(0, 3, 20, 0)", 3).due("hangs(0, 0)", 0)
                 .due("hangs(1, 0)", -2).due("hangs(2, 0)", -2).due("sum(0, 10, 0)", 1).due("sum(1, 10, 0)", 0)
                 .due("sum(2, 9, 0)", 1).due("then(2, 1, 0)", 1).due("by(2, 1, 10, 0)", 1)

@@ -10,6 +10,7 @@ public final class Promise11Test {
         days();
         knownDays();
         itIsNotKnownThen();
+        onADayAheadOfItsNews();
         alsoWhereItDoesNotLive();
         fixed();
         over();
@@ -71,6 +72,12 @@ public final class Promise11Test {
                 .due("told(0, 1, 10, 6)", 100).due("told(0, 1, 10, 7)", 7).due("told(0, 1, 10, 8)", 7)
                 .due("told(1, 1, 20, 8)", -1).due("told(2, 1, 20, 8)", -1).due("told(1, 1, 20, 9)", 100)
                 .due("told(2, 1, 20, 9)", 100);
+    }
+
+    private static void onADayAheadOfItsNews() {
+        new Run("on a DAY ahead of the DAY of its news", "day(30)", "born(5, 10)", "mark(0, 2, 15, 7)")
+                .due("told(0, 2, 14, 30)", 100).due("told(0, 2, 15, 30)", 7).due("told(0, 2, 29, 30)", 7)
+                .due("told(0, 2, 15, 29)", -1).due("told(0, 2, 40, 29)", -1).due("told(0, 2, 40, 30)", 7);
     }
 
     private static void alsoWhereItDoesNotLive() {

@@ -1,7 +1,7 @@
 /**
- * Promise 12, thing: "Of a THING as KNOWN on a DAY: CODE (0), BIRTH (1), END (2; 2,001 none), how it ENDED (3: 0 not, 1
- * ended, 2 SPLIT, 3 JOINED), its first heir (4; NONE), how often what it was is told over (5: VALUES of MARK 1 told that
- * aren't alike the one ahead). NONE: not as told, it isn't KNOWN then."
+ * Promise 12, thing: "Of a THING as KNOWN on a DAY: CODE (0), BIRTH (1), END (2; 2,001 none), how it ENDED (3: 0 not,
+ * 1 ended, 2 SPLIT, 3 JOINED), its first heir (4; NONE), how often what it was is told over (5: VALUES of MARK 1 told
+ * that aren't alike the one ahead). NONE: not as told, it isn't KNOWN then."
  */
 public final class Promise12Test {
     public static void main(String[] args) {

@@ -16,8 +16,8 @@ public final class Promise13Test {
     }
 
     private static void theThingThatLivesOnItsDay() {
-        new Run("the THING of its CODE that lives on its DAY", "born(5, 10)", "born(6, 0)", "ends(0, 20)", "born(5, 21)",
-                "fact(5, 9, 1)", "fact(5, 10, 1)", "fact(5, 11, 1)", "fact(5, 19, 1)", "fact(5, 20, 1)",
+        new Run("the THING of its CODE that lives on its DAY", "born(5, 10)", "born(6, 0)", "ends(0, 20)",
+                "born(5, 21)", "fact(5, 9, 1)", "fact(5, 10, 1)", "fact(5, 11, 1)", "fact(5, 19, 1)", "fact(5, 20, 1)",
                 "fact(5, 21, 1)", "fact(5, 22, 1)").due("hangs(0, 0)", -1).due("hangs(1, 0)", 0)
                 .due("hangs(2, 0)", 0).due("hangs(3, 0)", 0).due("hangs(4, 0)", -1).due("hangs(5, 0)", 2)
                 .due("hangs(6, 0)", 2);

@@ -7,6 +7,7 @@ public final class Promise14Test {
         days();
         knownDays();
         asKnown();
+        onADayAheadOfItsNews();
         oneCodeOnOneDay();
         Check.finish();
     }
@@ -51,6 +52,13 @@ public final class Promise14Test {
                 .due("find(5, 20, 5)", 0).due("find(5, 20, 6)", -1).due("find(5, 19, 6)", 0)
                 .due("find(5, 20, 7)", -1).due("find(5, 20, 8)", 1).due("find(5, 19, 8)", 0)
                 .due("find(5, 20, 2000)", 1);
+    }
+
+    private static void onADayAheadOfItsNews() {
+        new Run("on a DAY ahead of the DAY of its news", "day(30)", "born(5, 10)", "day(40)", "ends(0, 20)")
+                .due("find(5, 9, 30)", -1).due("find(5, 10, 30)", 0).due("find(5, 25, 30)", 0)
+                .due("find(5, 10, 29)", -1).due("find(5, 25, 39)", 0).due("find(5, 25, 40)", -1)
+                .due("find(5, 19, 40)", 0).due("find(5, 35, 29)", -1);
     }
 
     private static void oneCodeOnOneDay() {

@@ -9,6 +9,7 @@ public final class Promise15Test {
         knownByThen();
         markedByThen();
         livesKnownByThen();
+        onADayAheadOfItsNews();
         notCarried();
         leastAndMost();
         Check.finish();
@@ -54,9 +55,9 @@ public final class Promise15Test {
     }
 
     private static void knownByThen() {
-        new Run("the FACTS (KNOWN by k)", "born(5, 0)", "day(4)", "fact(5, 10, 6)", "load()", "fact(5, 10, 1)", "day(8)",
-                "undo(0)", "day(9)").due("then(2, 100, 3)", 0).due("then(2, 100, 4)", 7).due("then(2, 100, 5)", 7)
-                .due("then(2, 100, 7)", 7).due("then(2, 100, 8)", 1).due("then(2, 100, 9)", 1)
+        new Run("the FACTS (KNOWN by k)", "born(5, 0)", "day(4)", "fact(5, 10, 6)", "load()", "fact(5, 10, 1)",
+                "day(8)", "undo(0)", "day(9)").due("then(2, 100, 3)", 0).due("then(2, 100, 4)", 7)
+                .due("then(2, 100, 5)", 7).due("then(2, 100, 7)", 7).due("then(2, 100, 8)", 1).due("then(2, 100, 9)", 1)
                 .due("then(2, 100, 2000)", 1);
     }
 
@@ -72,6 +73,13 @@ public final class Promise15Test {
                 "split(0, 10, 5, 6, 1, 2)", "mark(1, 1, 0, 9)").due("then(1, 7, 3)", 0).due("then(1, 100, 3)", 0)
                 .due("then(1, 7, 4)", 6).due("then(1, 7, 7)", 6).due("then(1, 7, 8)", 0).due("then(1, 9, 8)", 6)
                 .due("then(1, 9, 7)", 0);
+    }
+
+    private static void onADayAheadOfItsNews() {
+        new Run("FACTS of a DAY ahead of the DAY of their news", "day(30)", "born(5, 10)", "mark(0, 2, 15, 7)",
+                "fact(5, 14, 1)", "fact(5, 15, 10)", "fact(5, 35, 100)").due("then(2, 7, 30)", 110)
+                .due("then(2, 100, 30)", 1).due("then(2, 7, 29)", 0).due("then(2, 100, 29)", 0)
+                .due("then(2, 7, 35)", 110);
     }
 
     private static void notCarried() {

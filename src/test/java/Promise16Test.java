@@ -12,6 +12,7 @@ public final class Promise16Test {
         markedByThen();
         splitKnownByThen();
         joinKnownByThen();
+        toADayAheadOfItsNews();
         leastAndMost();
         Check.finish();
     }
@@ -26,9 +27,9 @@ public final class Promise16Test {
     }
 
     private static void itStaysWhereItLives() {
-        new Run("if that lives on D it stays", "born(5, 10)", "fact(5, 15, 6)", "ends(0, 20)").due("by(2, 100, 9, 0)", 0)
-                .due("by(2, 100, 10, 0)", 6).due("by(2, 100, 14, 0)", 6).due("by(2, 100, 15, 0)", 6)
-                .due("by(2, 100, 16, 0)", 6).due("by(2, 100, 19, 0)", 6).due("by(2, 100, 20, 0)", 0)
+        new Run("if that lives on D it stays", "born(5, 10)", "fact(5, 15, 6)", "ends(0, 20)")
+                .due("by(2, 100, 9, 0)", 0).due("by(2, 100, 10, 0)", 6).due("by(2, 100, 14, 0)", 6)
+                .due("by(2, 100, 15, 0)", 6).due("by(2, 100, 16, 0)", 6).due("by(2, 100, 19, 0)", 6).due("by(2, 100, 20, 0)", 0)
                 .due("by(2, 100, 21, 0)", 0);
     }
 
@@ -95,6 +96,15 @@ public final class Promise16Test {
                 .due("by(1, 100, 19, 4)", 40).due("by(1, 4, 19, 4)", 0).due("by(1, 3, 20, 4)", 0)
                 .due("by(1, 100, 20, 4)", 0).due("by(1, 4, 20, 4)", 47).due("by(1, 4, 21, 4)", 47)
                 .due("by(1, 4, 2000, 4)", 47);
+    }
+
+    private static void toADayAheadOfItsNews() {
+        new Run("CARRIED to a DAY ahead of the DAY of its news", "day(30)", "born(5, 0)", "fact(5, 5, 7)",
+                "mark(0, 1, 0, 3)", "day(40)", "split(0, 10, 6, 7, 1, 2)", "mark(1, 1, 0, 4)", "mark(2, 1, 0, 5)")
+                .due("by(1, 3, 20, 29)", 0).due("by(1, 3, 20, 30)", 7).due("by(1, 3, 0, 30)", 7)
+                .due("by(1, 3, 35, 39)", 7).due("by(1, 3, 20, 39)", 7).due("by(1, 4, 20, 39)", 0)
+                .due("by(1, 4, 20, 40)", 3).due("by(1, 5, 20, 40)", 4).due("by(1, 3, 9, 40)", 7)
+                .due("by(1, 4, 10, 40)", 3).due("by(1, 4, 50, 40)", 3).due("by(1, 3, 50, 39)", 7);
     }
 
     private static void leastAndMost() {

@@ -14,6 +14,7 @@ public final class Promise17Test {
         nowhereFromTheEnd();
         nowhereAsKnown();
         nowhereOfParts();
+        onADayAheadOfItsNews();
         whoWaitsIsNotNowhere();
         leastAndMost();
         Check.finish();
@@ -107,6 +108,14 @@ public final class Promise17Test {
                 .due("by(2, 100, 40, 0)", 0);
         new Run("all of what was JOINED is NOWHERE", "born(5, 10)", "born(6, 10)", "fact(5, 15, 7)", "fact(6, 15, -2)",
                 "join(0, 1, 20, 7)", "ends(2, 30)").due("sum(2, 29, 0)", 0).due("sum(2, 30, 0)", 5);
+    }
+
+    private static void onADayAheadOfItsNews() {
+        new Run("CARRIED to a DAY ahead of the DAY of its news", "day(30)", "born(5, 10)", "fact(5, 15, 6)", "day(40)",
+                "ends(0, 20)").due("sum(2, 9, 30)", 6).due("sum(2, 10, 30)", 0).due("sum(2, 25, 30)", 0)
+                .due("sum(2, 9, 29)", 0).due("sum(2, 25, 39)", 0).due("sum(2, 25, 40)", 6)
+                .due("sum(2, 19, 40)", 0).due("sum(2, 45, 39)", 0).due("sum(0, 9, 29)", 0)
+                .due("sum(0, 9, 30)", 6).due("sum(1, 9, 30)", 0);
     }
 
     private static void whoWaitsIsNotNowhere() {

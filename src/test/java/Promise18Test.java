@@ -14,6 +14,7 @@ public final class Promise18Test {
         movedInBothAlone();
         fixedAndOverNeverMove();
         livesAsKnown();
+        onDaysAheadOfTheNews();
         marksAsKnown();
         splitAndJoined();
         fortyThings();
@@ -107,14 +108,14 @@ public final class Promise18Test {
     }
 
     private static void movedFromNothing() {
-        new Run("moved: nothing was told on one DAY", "born(5, 0)", "mark(0, 2, 15, 0)").due("compare(2, 14, 15, 0, 3)", 1)
-                .due("compare(2, 15, 14, 0, 3)", 1).due("compare(2, 13, 14, 0, 3)", 0)
-                .due("compare(2, 15, 16, 0, 3)", 0);
+        new Run("moved: nothing was told on one DAY", "born(5, 0)", "mark(0, 2, 15, 0)")
+                .due("compare(2, 14, 15, 0, 3)", 1).due("compare(2, 15, 14, 0, 3)", 1)
+                .due("compare(2, 13, 14, 0, 3)", 0).due("compare(2, 15, 16, 0, 3)", 0);
     }
 
     private static void movedInBothAlone() {
-        new Run("moved: in both alone", "born(5, 10)", "ends(0, 20)", "mark(0, 2, 15, 1)").due("compare(2, 9, 19, 0, 3)", 0)
-                .due("compare(2, 10, 19, 0, 3)", 1).due("compare(2, 10, 20, 0, 3)", 0)
+        new Run("moved: in both alone", "born(5, 10)", "ends(0, 20)", "mark(0, 2, 15, 1)")
+                .due("compare(2, 9, 19, 0, 3)", 0).due("compare(2, 10, 19, 0, 3)", 1).due("compare(2, 10, 20, 0, 3)", 0)
                 .due("compare(2, 9, 20, 0, 3)", 0);
     }
 
@@ -134,6 +135,16 @@ public final class Promise18Test {
         dueAll(run, "compare(2, 20, 10, 6, ", 0, 1, 0, 0);
         dueAll(run, "compare(2, 20, 10, 5, ", 1, 0, 0, 0);
         dueAll(run, "compare(2, 20, 10, 3, ", 0, 0, 0, 0);
+    }
+
+    private static void onDaysAheadOfTheNews() {
+        Run run = new Run("DAYS ahead of the DAY of the news", "day(30)", "born(5, 10)", "mark(0, 2, 15, 7)", "day(40)",
+                "ends(0, 20)");
+        dueAll(run, "compare(2, 10, 15, 30, ", 1, 0, 0, 1);
+        dueAll(run, "compare(2, 9, 20, 39, ", 0, 1, 0, 0);
+        dueAll(run, "compare(2, 10, 20, 40, ", 0, 0, 1, 0);
+        dueAll(run, "compare(2, 10, 15, 29, ", 0, 0, 0, 0);
+        dueAll(run, "compare(2, 50, 10, 39, ", 1, 0, 0, 1);
     }
 
     private static void marksAsKnown() {

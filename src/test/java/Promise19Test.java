@@ -1,5 +1,6 @@
 /**
- * Promise 19, count: "0 TODAY, 1 THINGS, 2 FACTS, 3 tellings, 4 the LOAD that is open, 5 LOADS UNDONE. NONE for others."
+ * Promise 19, count: "0 TODAY, 1 THINGS, 2 FACTS, 3 tellings, 4 the LOAD that is open, 5 LOADS UNDONE. NONE for
+ * others."
  */
 public final class Promise19Test {
     public static void main(String[] args) {

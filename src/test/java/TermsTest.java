@@ -11,8 +11,10 @@ public final class TermsTest {
         splitAndJoined();
         partsThatMeetAgain();
         joinedAgain();
+        theLongestWay();
         heirsThatEnd();
         carriedAsKnown();
+        carriedFromTheLastThings();
         factsOnHeirs();
         loadsOfTellings();
         Check.finish();
@@ -136,6 +138,22 @@ public final class TermsTest {
                 "join(0, 1, 2000, 8)", "mark(2, 1, 0, 5)").due("by(1, 5, 1999, 0)", 0).due("by(1, 5, 2000, 0)", 21);
     }
 
+    /** SPLIT and JOINED in turn, 26 times as far as 40 THINGS go: no longer way is there. */
+    private static void theLongestWay() {
+        Run run = new Run("CARRIED on as far as 40 THINGS go", "born(5, 0)", "fact(5, 0, 10000)", "fact(5, 0, -9999)");
+        for (int i = 0; i < 13; i++) {
+            int whole = 3 * i;
+            run.tell("split(" + whole + ", " + (10 + 2 * i) + ", 6, 7, 1, 2)",
+                    "join(" + (whole + 1) + ", " + (whole + 2) + ", " + (11 + 2 * i) + ", 5)",
+                    "mark(" + (whole + 3) + ", 1, 0, " + i + ")");
+        }
+        for (int i = 0; i < 13; i++) {
+            run.due("by(1, " + i + ", " + (11 + 2 * i) + ", 0)", 1)
+                    .due("by(1, 100, " + (10 + 2 * i) + ", 0)", 1);
+        }
+        run.due("count(1)", 40).due("by(1, 12, 2000, 0)", 1).due("sum(2, 2000, 0)", 0);
+    }
+
     private static void heirsThatEnd() {
         new Run("it was SPLIT by D, and a part ENDED by D", "born(5, 10)", "fact(5, 15, 5)", "split(0, 20, 6, 7, 1, 2)",
                 "ends(2, 21)").due("by(2, 100, 20, 0)", 5).due("sum(2, 20, 0)", 0).due("by(2, 100, 21, 0)", 2)
@@ -154,6 +172,13 @@ public final class TermsTest {
                 "mark(3, 1, 0, 4)").due("by(1, 1, 30, 1)", 8).due("by(1, 2, 30, 1)", 0).due("by(1, 2, 30, 2)", 2)
                 .due("by(1, 3, 30, 2)", 6).due("by(1, 2, 30, 3)", 2).due("by(1, 4, 30, 3)", 0)
                 .due("by(1, 4, 30, 4)", 8).due("by(1, 2, 29, 4)", 2).due("by(1, 1, 19, 4)", 8);
+    }
+
+    private static void carriedFromTheLastThings() {
+        new Run("a SPLIT whose parts are the THINGS 38 and 39", "born(99, 0)", "fact(99, 5, 7)")
+                .tellEach(1, 38, i -> "born(" + i + ", 0)").tell("split(0, 10, 50, 51, 1, 2)", "mark(38, 1, 0, 1)",
+                "mark(39, 1, 0, 2)").due("by(1, 1, 10, 0)", 3).due("by(1, 2, 10, 0)", 4).due("by(1, 100, 9, 0)", 7)
+                .due("by(1, 100, 10, 0)", 0);
     }
 
     private static void factsOnHeirs() {
