@@ -29,8 +29,8 @@ public final class Promise16Test {
     private static void itStaysWhereItLives() {
         new Run("if that lives on D it stays", "born(5, 10)", "fact(5, 15, 6)", "ends(0, 20)")
                 .due("by(2, 100, 9, 0)", 0).due("by(2, 100, 10, 0)", 6).due("by(2, 100, 14, 0)", 6)
-                .due("by(2, 100, 15, 0)", 6).due("by(2, 100, 16, 0)", 6).due("by(2, 100, 19, 0)", 6).due("by(2, 100, 20, 0)", 0)
-                .due("by(2, 100, 21, 0)", 0);
+                .due("by(2, 100, 15, 0)", 6).due("by(2, 100, 16, 0)", 6).due("by(2, 100, 19, 0)", 6)
+                .due("by(2, 100, 20, 0)", 0).due("by(2, 100, 21, 0)", 0);
     }
 
     private static void marks() {
