@@ -5,7 +5,9 @@ import java.lang.reflect.Method;
 import java.lang.reflect.Modifier;
 import java.nio.file.Files;
 import java.nio.file.Path;
+import java.util.ArrayList;
 import java.util.Arrays;
+import java.util.List;
 import java.util.Set;
 import java.util.TreeSet;
 import java.util.regex.Matcher;
@@ -22,8 +24,11 @@ public final class FaceTest {
 
     public static void main(String[] args) throws IOException {
         face();
+        constant();
         members();
+        shapes();
         words();
+        lengths();
         Check.finish();
     }
 
@@ -43,6 +48,14 @@ public final class FaceTest {
         Check.due("one constructor", made.length, 1);
         Check.due("without parameters", made[0].getParameterCount(), 0);
         Check.due("that is public", Modifier.isPublic(made[0].getModifiers()), true);
+    }
+
+    private static void constant() {
+        long found = Arrays.stream(ThenTables.class.getFields()).filter(f -> f.getName().equals("NONE")
+                && f.getType() == int.class
+                && f.getModifiers() == (Modifier.PUBLIC | Modifier.STATIC | Modifier.FINAL)).count();
+        Check.due("public static final int NONE", found, 1);
+        Check.due("NONE", ThenTables.NONE, -1);
     }
 
     private static void members() {
@@ -68,9 +81,50 @@ public final class FaceTest {
         }
     }
 
+    /** LANGUAGE.md, rules 1, 2, 5 and 11: as far as they are numbers and kinds of members. */
+    private static void shapes() {
+        List<Class<?>> all = new ArrayList<>(List.of(ThenTables.class.getDeclaredClasses()));
+        all.add(ThenTables.class);
+        Check.due("some twelve classes at most: " + all.size(), all.size() <= 12, true);
+        for (Class<?> c : all) {
+            int own = 0;
+            for (Field f : c.getDeclaredFields()) {
+                int kind = f.getModifiers();
+                own += Modifier.isStatic(kind) ? 0 : 1;
+                boolean constant = f.getType() == int.class && Modifier.isFinal(kind);
+                Check.due(f + " is a constant if static", !Modifier.isStatic(kind) || constant, true);
+            }
+            Check.due(c + " has some twenty fields at most: " + own, own <= 20, true);
+            Check.due(c + " has no class inside of its own", c == ThenTables.class
+                    || c.getDeclaredClasses().length == 0, true);
+            for (Method m : c.getDeclaredMethods()) {
+                Check.due(m + " takes at most seven", m.getParameterCount() <= 7, true);
+            }
+        }
+    }
+
+    private static String source() throws IOException {
+        return Files.readString(Path.of("src/main/java/ThenTables.java"));
+    }
+
+    /** LANGUAGE.md, rules 3 and 11: characters 0 to 255, and methods of some sixty lines. */
+    private static void lengths() throws IOException {
+        Check.due("characters above 255", source().chars().filter(c -> c > 255).count(), 0);
+        String[] lines = source().split("\n");
+        int methods = 0;
+        for (int start = 0; start < lines.length; start++) {
+            if (lines[start].matches(" {4,8}(?!if |for |while |switch |\\})[a-zA-Z].*\\) \\{")) {
+                methods++;
+                String last = lines[start].replaceAll("\\S.*", "") + "}";
+                int length = List.of(lines).subList(start, lines.length).indexOf(last) + 1;
+                Check.due("a method has sixty lines at most: " + lines[start].trim(), length <= 60, true);
+            }
+        }
+        Check.due("methods were found", methods > FACE.length, true);
+    }
+
     private static void words() throws IOException {
-        String source = Files.readString(Path.of("src/main/java/ThenTables.java"));
-        String code = source.replaceAll("(?s)/\\*.*?\\*/", "").replaceAll("//[^\n]*", "");
+        String code = source().replaceAll("(?s)/\\*.*?\\*/", "").replaceAll("//[^\n]*", "");
         String[] forbidden = {"\\bthrow", "\\btry\\b", "\\bcatch\\b", "\\bsynchronized\\b", "\\bassert\\b",
             "\\bimport\\b", "\\bpackage\\b", "->", "::", "Exact\\b", "\\bSystem\\b", "\\bObject\\b", "\\bprotected\\b"};
         for (String word : forbidden) {

@@ -63,6 +63,12 @@ final class Run {
         return refused(text, want ? 1 : 0);
     }
 
+    /** A call that asks, whatever it answers: it does nothing. */
+    Run asks(String text) {
+        doesNothing(Call.of(text));
+        return this;
+    }
+
     private long ask(Call call) {
         calls++;
         if (calls == MOST_CALLS + 1) {
@@ -80,26 +86,26 @@ final class Run {
     }
 
     /** Asked in parts, each of two new objects, since no object may get more than 512 calls. */
-    private void doesNothing(Call refused) {
+    private void doesNothing(Call idle) {
         List<Call> questions = Questions.about(again());
         List<Call> following = Questions.tellingsBehind(again());
         int room = MOST_CALLS - taken.size() - 1 - FOLLOWING;
         for (int at = 0; at < questions.size(); at += room) {
             List<Call> part = questions.subList(at, Math.min(questions.size(), at + room));
-            alike(refused, part);
+            alike(idle, part);
             List<Call> later = new ArrayList<>(following);
             later.addAll(part);
-            alike(refused, later);
+            alike(idle, later);
         }
     }
 
-    private void alike(Call refused, List<Call> questions) {
+    private void alike(Call idle, List<Call> questions) {
         ThenTables without = again();
         ThenTables with = again();
-        refused.on(with);
+        idle.on(with);
         for (Call q : questions) {
             long want = q.on(without);
-            Check.due(sentence + ": " + q + " behind the refused " + refused, q.on(with), want);
+            Check.due(sentence + ": " + q + " behind " + idle, q.on(with), want);
         }
     }
 }
