@@ -63,9 +63,11 @@ final class Run {
         return refused(text, want ? 1 : 0);
     }
 
-    /** A call that asks, whatever it answers: it does nothing. */
+    /** A call that asks does nothing: shown question by question, as one that did would hide in earlier ones. */
     Run asks(String text) {
-        doesNothing(Call.of(text));
+        for (Call question : Questions.about(again())) {
+            alike(Call.of(text), List.of(question));
+        }
         return this;
     }
 
@@ -86,16 +88,16 @@ final class Run {
     }
 
     /** Asked in parts, each of two new objects, since no object may get more than 512 calls. */
-    private void doesNothing(Call idle) {
+    private void doesNothing(Call refused) {
         List<Call> questions = Questions.about(again());
         List<Call> following = Questions.tellingsBehind(again());
         int room = MOST_CALLS - taken.size() - 1 - FOLLOWING;
         for (int at = 0; at < questions.size(); at += room) {
             List<Call> part = questions.subList(at, Math.min(questions.size(), at + room));
-            alike(idle, part);
+            alike(refused, part);
             List<Call> later = new ArrayList<>(following);
             later.addAll(part);
-            alike(idle, later);
+            alike(refused, later);
         }
     }
 
